@@ -1,0 +1,65 @@
+import java.util.NoSuchElementException;
+
+/** What can be seen of a WriteBackTier, as texts that are easy to compare. */
+final class Look {
+    static final int BLOCKS = 64;
+
+    private Look() {
+    }
+
+    /** The blocks of the order, the one used last first. */
+    static String order(WriteBackTier x) {
+        StringBuilder text = new StringBuilder();
+        try {
+            for (int k = 0; k <= BLOCKS; k++) {
+                text.append(k == 0 ? "" : " ").append(x.order(k));
+            }
+        } catch (IndexOutOfBoundsException e) {
+            return text.toString().trim();
+        }
+        return text + " and no end";
+    }
+
+    /** What is noted of all slots, by their numbers. */
+    static String noted(WriteBackTier x) {
+        StringBuilder text = new StringBuilder();
+        try {
+            for (int s = 0; s <= BLOCKS; s++) {
+                text.append(s == 0 ? "" : " ").append(x.noted(s));
+            }
+        } catch (IndexOutOfBoundsException e) {
+            return text.toString().trim();
+        }
+        return text + " and no end";
+    }
+
+    static String figures(WriteBackTier x) {
+        StringBuilder text = new StringBuilder();
+        for (int k = 0; k <= 7; k++) {
+            text.append(k == 0 ? "" : " ").append(x.figure(k));
+        }
+        return text.toString();
+    }
+
+    /** "-" for a block that is not cached, else its slot and, if dirty, a star. */
+    static String block(WriteBackTier x, int b) {
+        int s = x.slot(b);
+        try {
+            return s + (x.dirty(b) ? "*" : "");
+        } catch (NoSuchElementException e) {
+            return s == -1 ? "-" : s + " but not cached";
+        }
+    }
+
+    /** All that can be seen without changing anything, in at most 240 calls. */
+    static String all(WriteBackTier x) {
+        StringBuilder text = new StringBuilder();
+        for (int b = 0; b < BLOCKS; b++) {
+            text.append(block(x, b)).append('=').append(x.origin(b)).append(' ');
+        }
+        text.append("| order ").append(order(x));
+        text.append(" | noted ").append(noted(x));
+        text.append(" | figures ").append(figures(x));
+        return text.toString();
+    }
+}
