@@ -363,9 +363,9 @@ public final class WriteBackTier {
         for (int s = 0; s < slotCount; s++) {
             contents[s] = notes[s];
             // The lower the number, the later the use: that is the order by the slots' numbers.
+            // None of these is above 0, so every use to come is later.
             lastUses[s] = -s;
         }
-        uses = 0;
         currentMode = BACK;
         hand = 0;
     }

@@ -1,4 +1,6 @@
 import java.util.NoSuchElementException;
+import java.util.StringJoiner;
+import java.util.function.IntUnaryOperator;
 
 /** What can be seen of a WriteBackTier, as texts that are easy to compare. */
 final class Look {
@@ -9,34 +11,30 @@ final class Look {
 
     /** The blocks of the order, the one used last first. */
     static String order(WriteBackTier x) {
-        StringBuilder text = new StringBuilder();
-        try {
-            for (int k = 0; k <= BLOCKS; k++) {
-                text.append(k == 0 ? "" : " ").append(x.order(k));
-            }
-        } catch (IndexOutOfBoundsException e) {
-            return text.toString().trim();
-        }
-        return text + " and no end";
+        return untilOutOfBounds(x::order);
     }
 
     /** What is noted of all slots, by their numbers. */
     static String noted(WriteBackTier x) {
-        StringBuilder text = new StringBuilder();
+        return untilOutOfBounds(x::noted);
+    }
+
+    private static String untilOutOfBounds(IntUnaryOperator row) {
+        StringJoiner text = new StringJoiner(" ");
         try {
-            for (int s = 0; s <= BLOCKS; s++) {
-                text.append(s == 0 ? "" : " ").append(x.noted(s));
+            for (int k = 0; k <= BLOCKS; k++) {
+                text.add(Integer.toString(row.applyAsInt(k)));
             }
         } catch (IndexOutOfBoundsException e) {
-            return text.toString().trim();
+            return text.toString();
         }
         return text + " and no end";
     }
 
     static String figures(WriteBackTier x) {
-        StringBuilder text = new StringBuilder();
+        StringJoiner text = new StringJoiner(" ");
         for (int k = 0; k <= 7; k++) {
-            text.append(k == 0 ? "" : " ").append(x.figure(k));
+            text.add(Integer.toString(x.figure(k)));
         }
         return text.toString();
     }

@@ -104,6 +104,7 @@ public final class PromisesTest {
         x.read(6);
         Expect.same("2: a clean slot that is noted clean is noted empty", x.figure(3), noted + 1);
         Expect.same("2: a miss answers the origin's value", x.read(2), 20L);
+        Expect.same("2: and the slot has it then", x.read(2), 20L);
         x.mode(PAST);
         x.write(6, 60L);
         x.write(2, 21L);
@@ -334,6 +335,10 @@ public final class PromisesTest {
         Expect.same("7: nothing more to note", x.check(), 0);
         Expect.same("7: nor noted", x.figure(3), 3);
         Expect.same("7: they outlive a stop", x.crash(), 3);
+        WriteBackTier y = new WriteBackTier(2);
+        y.read(63);
+        y.read(0);
+        Expect.same("7: all slots, from the first to the last", y.check() + " " + Look.noted(y), "2 126 0");
     }
 
     private static void promise8Crash() {
