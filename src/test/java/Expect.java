@@ -1,14 +1,20 @@
 /** Counts and prints every answer that is not the one that is due. */
 final class Expect {
     private static int wrong = 0;
+    private static String sentence = "";
 
     private Expect() {
+    }
+
+    /** What follows tests this sentence of the document: it is printed with each wrong answer. */
+    static void about(String words) {
+        sentence = "\"" + words + "\": ";
     }
 
     static void same(String what, Object got, Object want) {
         if (!got.equals(want)) {
             wrong++;
-            System.out.println(what + ": answered " + got + ", due is " + want);
+            System.out.println(sentence + what + ": answered " + got + ", due is " + want);
         }
     }
 

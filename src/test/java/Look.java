@@ -49,6 +49,17 @@ final class Look {
         }
     }
 
+    /** The values of all blocks that are cached, by their numbers. They are read, so the order and the hits change. */
+    static String values(WriteBackTier x) {
+        StringJoiner text = new StringJoiner(" ");
+        for (int b = 0; b < BLOCKS; b++) {
+            if (x.slot(b) != -1) {
+                text.add(b + "=" + x.read(b));
+            }
+        }
+        return text.toString();
+    }
+
     /** All that can be seen without changing anything, in at most 240 calls. */
     static String all(WriteBackTier x) {
         StringBuilder text = new StringBuilder();
