@@ -67,12 +67,17 @@ public final class PromiseEdgesTest {
         }
     }
 
+    /** How many steps were done, what block 63 is then, and how often something was noted. */
+    private static String cutBlock63(WriteBackTier x, int n) {
+        return x.cut(63, 5L, n) + " " + Look.block(x, 63) + " " + x.figure(3);
+    }
+
     private static void promise4StepsOfANewBlock() {
         Expect.about("the machine stops when n of its steps are done");
         String[] due = {"0 - 0", "1 - 0", "2 0* 1"};
         for (int n = 0; n <= 2; n++) {
             WriteBackTier x = new WriteBackTier(2);
-            Expect.same("a new block, n " + n, x.cut(63, 5L, n) + " " + Look.block(x, 63) + " " + x.figure(3), due[n]);
+            Expect.same("a new block, n " + n, cutBlock63(x, n), due[n]);
             Expect.same("its value, n " + n, x.read(63), n == 2 ? 5L : 0L);
         }
     }
@@ -82,7 +87,7 @@ public final class PromiseEdgesTest {
         String[] due = {"0 0* 1", "1 0* 1", "1 0* 1"};
         for (int n = 0; n <= 2; n++) {
             WriteBackTier x = Given.written(2, 63);
-            Expect.same("noted dirty, n " + n, x.cut(63, 5L, n) + " " + Look.block(x, 63) + " " + x.figure(3), due[n]);
+            Expect.same("noted dirty, n " + n, cutBlock63(x, n), due[n]);
             Expect.same("its value, n " + n, x.read(63), n == 0 ? 630L : 5L);
         }
     }
@@ -92,7 +97,7 @@ public final class PromiseEdgesTest {
         String[] due = {"0 0 2", "1 0* 3", "2 0* 3"};
         for (int n = 0; n <= 2; n++) {
             WriteBackTier x = Given.writtenBack(2, 63);
-            Expect.same("noted clean, n " + n, x.cut(63, 5L, n) + " " + Look.block(x, 63) + " " + x.figure(3), due[n]);
+            Expect.same("noted clean, n " + n, cutBlock63(x, n), due[n]);
             Expect.same("its value, n " + n, x.read(63), n == 2 ? 5L : 630L);
             Expect.same("the origin, n " + n, x.origin(63) + " " + x.figure(2), "630 1");
         }
@@ -107,7 +112,7 @@ public final class PromiseEdgesTest {
             x.write(63, 4L);
             x.mode(BACK);
             x.read(63);
-            Expect.same("noted empty, n " + n, x.cut(63, 5L, n) + " " + Look.block(x, 63) + " " + x.figure(3), due[n]);
+            Expect.same("noted empty, n " + n, cutBlock63(x, n), due[n]);
             Expect.same("its value, n " + n, x.read(63), n == 2 ? 5L : 4L);
         }
     }

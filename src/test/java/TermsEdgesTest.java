@@ -371,16 +371,20 @@ public final class TermsEdgesTest {
 
     private static void writingThroughWhatIsNotCached() {
         Expect.about("THROUGH: the origin gets v");
+        writingWhatIsNotCached(THROUGH);
+    }
+
+    private static void writingWhatIsNotCached(int m) {
         for (int slots : new int[] {1, 12}) {
             WriteBackTier x = new WriteBackTier(slots);
-            x.mode(THROUGH);
+            x.mode(m);
             x.write(63, 5L);
-            Expect.same("an empty cache", x.origin(63) + " " + Look.figures(x), "5 0 0 1 0 0 0 1 0");
+            Expect.same("an empty cache", x.origin(63) + " " + Look.figures(x), "5 0 0 1 0 0 0 " + m + " 0");
             WriteBackTier y = Given.readIn(slots, Given.blocks(0, slots));
-            y.mode(THROUGH);
+            y.mode(m);
             y.write(63, 5L);
             Expect.same("a full cache", y.origin(63) + " " + Look.block(y, 63) + " " + Look.figures(y),
-                "5 - 0 " + slots + " 1 0 " + slots + " 0 1 0");
+                "5 - 0 " + slots + " 1 0 " + slots + " 0 " + m + " 0");
         }
     }
 
@@ -401,17 +405,7 @@ public final class TermsEdgesTest {
 
     private static void writingPastWhatIsNotCached() {
         Expect.about("PAST: the origin gets v");
-        for (int slots : new int[] {1, 12}) {
-            WriteBackTier x = new WriteBackTier(slots);
-            x.mode(PAST);
-            x.write(63, 5L);
-            Expect.same("an empty cache", x.origin(63) + " " + Look.figures(x), "5 0 0 1 0 0 0 2 0");
-            WriteBackTier y = Given.readIn(slots, Given.blocks(0, slots));
-            y.mode(PAST);
-            y.write(63, 5L);
-            Expect.same("a full cache", y.origin(63) + " " + Look.block(y, 63) + " " + Look.figures(y),
-                "5 - 0 " + slots + " 1 0 " + slots + " 0 2 0");
-        }
+        writingWhatIsNotCached(PAST);
     }
 
     private static void writingPastWhatIsCached() {
