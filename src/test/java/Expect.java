@@ -32,6 +32,10 @@ final class Expect {
         }
     }
 
+    static boolean anyWrong() {
+        return wrong != 0;
+    }
+
     static void end() {
         System.out.println(wrong == 0 ? "all answers are as due" : wrong + " answers are not as due");
         if (wrong != 0) {

@@ -33,6 +33,16 @@ final class Model {
         }
     }
 
+    /** All that answers and changes to come depend on; the figures that only count are left out. */
+    String state() {
+        StringBuilder text = new StringBuilder(mode + hand);
+        origin.forEach((b, v) -> text.append(v == 0 ? "" : " " + b + "=" + v));
+        for (Slot s : slots) {
+            text.append(s.so).append(s.noted).append(s.so.empty ? "" : s.value).append(order.indexOf(s));
+        }
+        return text.toString();
+    }
+
     long read(int b) {
         block(b);
         Slot s = cached(b);

@@ -1,26 +1,21 @@
 import java.util.Random;
-import java.util.function.Supplier;
 
-/** Long runs of calls on a tier and on the model: each answer, and at the end all that can be seen, must agree. */
+/** Long runs of calls on a tier and on its model: each answer, and at the end all that can be seen, must agree. */
 public final class ModelTest {
     private static final int RUNS = 4000;
-    // With what is looked at when a run ends, that stays under the 512 calls of an object.
-    private static final int MOST_CALLS = 260;
+    // With the last ones and all that is looked at when a run ends, that stays under the 512 calls of an object.
+    private static final int MOST_CALLS = 270;
 
     private final Random random;
-    private final WriteBackTier tier;
-    private final Model model;
+    private final Pair pair;
     private final int blocks;
-    private final String name;
 
     private ModelTest(int run) {
         // A seed of its own for each run, so that a run that goes wrong can be run again.
         random = new Random(run);
         int slots = random.nextInt(15) - 1;
-        tier = new WriteBackTier(slots);
-        model = new Model(slots);
+        pair = new Pair(slots, () -> "run " + run + " with " + slots + " slots");
         blocks = random.nextBoolean() ? 64 : 1 + random.nextInt(16);
-        name = "run " + run + " with " + slots + " slots";
     }
 
     public static void main(String[] args) {
@@ -32,71 +27,51 @@ public final class ModelTest {
 
     private void go() {
         int calls = random.nextInt(MOST_CALLS + 1);
-        for (int call = 0; call < calls; call++) {
-            oneCall("call " + call);
+        while (pair.calls() < calls) {
+            callOrLook();
         }
-        for (int b = 0; b < 64; b++) {
-            int block = b;
-            compare("origin " + b, () -> tier.origin(block), () -> model.origin(block));
-            compare("slot " + b, () -> tier.slot(block), () -> model.slot(block));
-            if (model.slot(b) >= 0) {
-                compare("dirty " + b, () -> tier.dirty(block), () -> model.dirty(block));
-            }
+        for (int b = 0; b < Look.BLOCKS; b++) {
+            pair.lookAtBlock(b);
         }
-        for (int i = 0; i <= 12; i++) {
-            int k = i;
-            compare("order " + k, () -> tier.order(k), () -> model.order(k));
-            compare("noted " + k, () -> tier.noted(k), () -> model.noted(k));
-            compare("figure " + k, () -> tier.figure(k), () -> model.figure(k));
+        for (int k = 0; k <= 12; k++) {
+            pair.lookAtPlace(k);
+            pair.lookAtFigure(k);
         }
     }
 
-    private void oneCall(String call) {
+    private void callOrLook() {
         int b = block();
         long v = random.nextInt(8) == 0 ? random.nextLong() : random.nextInt(100);
         int kind = random.nextInt(100);
         if (kind < 30) {
-            compare(call + " read " + b, () -> tier.read(b), () -> model.read(b));
+            pair.read(b);
         } else if (kind < 60) {
-            compare(call + " write " + b, () -> {
-                tier.write(b, v);
-                return "";
-            }, () -> {
-                model.write(b, v);
-                return "";
-            });
+            pair.write(b, v);
         } else if (kind < 68) {
-            int n = random.nextInt(5) - 1;
-            compare(call + " cut " + b + " " + n, () -> tier.cut(b, v, n), () -> model.cut(b, v, n));
+            pair.cut(b, v, random.nextInt(5) - 1);
         } else if (kind < 74) {
-            int m = random.nextInt(5) - 1;
-            compare(call + " mode " + m, () -> tier.mode(m), () -> model.mode(m));
+            pair.mode(random.nextInt(5) - 1);
         } else if (kind < 84) {
-            int n = random.nextInt(3) == 0 ? random.nextInt(15) - 1 : random.nextInt(3);
-            compare(call + " back " + n, () -> tier.back(n), () -> model.back(n));
+            pair.back(random.nextInt(3) == 0 ? random.nextInt(15) - 1 : random.nextInt(3));
+        } else if (kind < 87) {
+            pair.check();
+        } else if (kind < 89) {
+            pair.crash();
+        } else if (kind < 90) {
+            pair.lose();
         } else {
-            rareCall(call, b, kind);
+            look(b, kind);
         }
     }
 
-    private void rareCall(String call, int b, int kind) {
+    private void look(int b, int kind) {
         int k = random.nextInt(10) - 1;
-        if (kind < 87) {
-            compare(call + " check", tier::check, model::check);
-        } else if (kind < 89) {
-            compare(call + " crash", tier::crash, model::crash);
-        } else if (kind < 90) {
-            compare(call + " lose", tier::lose, model::lose);
-        } else if (kind < 93) {
-            compare(call + " dirty " + b, () -> tier.dirty(b), () -> model.dirty(b));
-        } else if (kind < 95) {
-            compare(call + " slot " + b, () -> tier.slot(b), () -> model.slot(b));
-        } else if (kind < 97) {
-            compare(call + " order " + k, () -> tier.order(k), () -> model.order(k));
+        if (kind < 95) {
+            pair.lookAtBlock(b);
         } else if (kind < 98) {
-            compare(call + " origin " + b, () -> tier.origin(b), () -> model.origin(b));
+            pair.lookAtPlace(k);
         } else {
-            compare(call + " figure " + k, () -> tier.figure(k), () -> model.figure(k));
+            pair.lookAtFigure(k);
         }
     }
 
@@ -107,17 +82,5 @@ public final class ModelTest {
             return -1;
         }
         return pick == 1 ? 64 : random.nextInt(blocks);
-    }
-
-    private void compare(String call, Supplier<Object> ofTier, Supplier<Object> ofModel) {
-        Expect.same(name + ", " + call, outcome(ofTier), outcome(ofModel));
-    }
-
-    private static Object outcome(Supplier<Object> call) {
-        try {
-            return call.get();
-        } catch (RuntimeException e) {
-            return e.getClass();
-        }
     }
 }
